@@ -36,6 +36,7 @@ public final class PromisesTest {
         sated();
         mean();
         digest();
+        fullLand();
         CHECK.end();
     }
 
@@ -388,6 +389,10 @@ public final class PromisesTest {
         x.flush(0);
         x.pass(2);
         CHECK.same("all run dry: suspect()", x.suspect(), -1);
+        AqueductTanks y = fall();
+        y.steal(0, 1);
+        y.pass(1);
+        CHECK.same("1 lost in pipe 0: suspect()", y.suspect(), 0);
     }
 
     // ---- promise 13 and what a day does
@@ -512,6 +517,13 @@ public final class PromisesTest {
         CHECK.same("both muddy: tank(0, 4)", y.tank(0, 4), 90);
         CHECK.same("both muddy: tank(1, 4)", y.tank(1, 4), 99);
         CHECK.same("both full: tank(1, 7)", y.tank(1, 7), 20 * 21 + 20);
+        AqueductTanks z = twoTanks(90, 4, 4, 0, 0, 0);
+        z.pass(6);
+        z.lay(0, 1, 20, 0);
+        z.set(0, 1, 0);
+        z.pass(1);
+        CHECK.same("the last water takes all mud: tank(0, 4)", z.tank(0, 4), 0);
+        CHECK.same("the last water takes all mud: tank(1, 4)", z.tank(1, 4), 6);
     }
 
     private static void tapsLose() {
@@ -728,5 +740,29 @@ public final class PromisesTest {
             d = d * 31 + taps[pipe];
         }
         return d;
+    }
+
+    // ---- ten tanks and fourteen pipes: every call goes up to the last of them
+
+    private static void fullLand() {
+        AqueductTanks x = new AqueductTanks();
+        for (int tank = 0; tank < 10; tank++) {
+            x.build(90 - 10 * tank, 20, 2);
+        }
+        int[] taps = new int[14];
+        for (int pipe = 0; pipe < 14; pipe++) {
+            x.lay(pipe % 9, pipe % 9 + 1, 20, 0);
+        }
+        x.steal(13, 9);
+        taps[13] = 9;
+        int foreseen = x.foresee(3, 0);
+        CHECK.same("full: pass(3)", x.pass(3), foreseen);
+        CHECK.same("full: the last one drinks, too: tank(9, 6)", x.tank(9, 6), 6);
+        CHECK.same("full: suspect()", x.suspect(), 13);
+        CHECK.same("full: count(6)", x.count(6), x.pipe(13, 7));
+        CHECK.same("full: sated(9)", x.sated(9), 1);
+        CHECK.same("full: advise(1)", x.advise(1), -1);
+        CHECK.same("full: reach(0)", x.reach(0), 1022);
+        CHECK.same("full: digest()", x.digest(), reckonedDigest(x, taps));
     }
 }

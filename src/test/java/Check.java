@@ -6,6 +6,17 @@ final class Check {
 
     private int checked = 0;
     private int wrong = 0;
+    private int sentences = 0;
+    private int checkedAheadOfSentence = 0;
+    private String sentence = "";
+
+    /** What is checked from here on tests these words of the document; wrong answers are told with them. */
+    void sentence(String words) {
+        endSentence();
+        sentences++;
+        checkedAheadOfSentence = checked;
+        sentence = words;
+    }
 
     void same(String call, long got, long due) {
         checked++;
@@ -35,15 +46,30 @@ final class Check {
         }
     }
 
+    /** The checksum is made of all that there is, so it tells whether anything was changed. */
+    void refusedBy(AqueductTanks x, String call, Class<?> due, Call made) {
+        long before = x.digest();
+        refused(call, due, made);
+        same("digest() after " + call, x.digest(), before);
+    }
+
     void end() {
-        System.out.println(checked + " answers checked, " + wrong + " wrong");
+        endSentence();
+        String tested = sentences == 0 ? "" : sentences + " sentences, ";
+        System.out.println(tested + checked + " answers checked, " + wrong + " wrong");
         if (wrong != 0 || checked == 0) {
             System.exit(1);
         }
     }
 
+    private void endSentence() {
+        if (sentences > 0 && checked == checkedAheadOfSentence) {
+            tell("nothing is checked");
+        }
+    }
+
     private void tell(String text) {
         wrong++;
-        System.out.println(text);
+        System.out.println(sentence.isEmpty() ? text : "[" + sentence + "] " + text);
     }
 }

@@ -70,9 +70,7 @@ public final class PromisesTest {
     }
 
     private static void refused(AqueductTanks x, String call, Class<?> due, Check.Call made) {
-        long before = x.digest();
-        CHECK.refused(call, due, made);
-        unchanged(call, x, before);
+        CHECK.refusedBy(x, call, due, made);
     }
 
     // ---- promise 1

@@ -249,7 +249,8 @@ public final class DayEdgesTest {
         CHECK.sentence("as mud * what flows / (its water ahead of the flowing)");
         // Water, mud, the width; mud that is left and mud that has come.
         int[][] rows = {{200, 99, 20, 90, 9}, {20, 99, 20, 0, 99}, {20, 99, 19, 5, 94}, {1, 99, 20, 0, 99}, {0, 99, 20, 99, 0},
-            {200, 9, 20, 9, 0}, {200, 10, 20, 9, 1}, {100, 0, 20, 0, 0}, {60, 15, 7, 14, 1}, {199, 99, 2, 99, 0}, {198, 99, 2, 98, 1}};
+            {200, 9, 20, 9, 0}, {200, 10, 20, 9, 1}, {100, 0, 20, 0, 0}, {60, 15, 7, 14, 1}, {199, 99, 2, 99, 0},
+            {198, 99, 2, 98, 1}};
         for (int[] row : rows) {
             AqueductTanks x = Lands.with(tank(99, row[0], row[1]), tank(0, 0, 0));
             x.lay(0, 1, row[2], 0);

@@ -18,6 +18,15 @@ final class Check {
         sentence = words;
     }
 
+    /** A test that is cut off by an exception is wrong, and those behind it still run. */
+    void run(Runnable test) {
+        try {
+            test.run();
+        } catch (RuntimeException e) {
+            tell("cut off by " + e);
+        }
+    }
+
     void same(String call, long got, long due) {
         checked++;
         if (got != due) {

@@ -3,28 +3,28 @@ public final class DayEdgesTest {
     private static final Check CHECK = new Check();
 
     public static void main(String[] args) {
-        lessThanDip();
-        zeroOrLess();
-        widthLessCrust();
-        tenthOfDifference();
-        waterOfTheTank();
-        springWater();
-        springMud();
-        springMudStays();
-        pipesByNumbers();
-        leavesTheOneTank();
-        stolenTap();
-        restComes();
-        wanderingMud();
-        wanderingMudStays();
-        daysOfCrust();
-        flowedOnThisDay();
-        mostCrust();
-        fountainsInTheirTurn();
-        muddyFountains();
-        muddyAtThatMoment();
-        dryFountains();
-        dayIsGreater();
+        CHECK.run(DayEdgesTest::lessThanDip);
+        CHECK.run(DayEdgesTest::zeroOrLess);
+        CHECK.run(DayEdgesTest::widthLessCrust);
+        CHECK.run(DayEdgesTest::tenthOfDifference);
+        CHECK.run(DayEdgesTest::waterOfTheTank);
+        CHECK.run(DayEdgesTest::springWater);
+        CHECK.run(DayEdgesTest::springMud);
+        CHECK.run(DayEdgesTest::springMudStays);
+        CHECK.run(DayEdgesTest::pipesByNumbers);
+        CHECK.run(DayEdgesTest::leavesTheOneTank);
+        CHECK.run(DayEdgesTest::stolenTap);
+        CHECK.run(DayEdgesTest::restComes);
+        CHECK.run(DayEdgesTest::wanderingMud);
+        CHECK.run(DayEdgesTest::wanderingMudStays);
+        CHECK.run(DayEdgesTest::daysOfCrust);
+        CHECK.run(DayEdgesTest::flowedOnThisDay);
+        CHECK.run(DayEdgesTest::mostCrust);
+        CHECK.run(DayEdgesTest::fountainsInTheirTurn);
+        CHECK.run(DayEdgesTest::muddyFountains);
+        CHECK.run(DayEdgesTest::muddyAtThatMoment);
+        CHECK.run(DayEdgesTest::dryFountains);
+        CHECK.run(DayEdgesTest::dayIsGreater);
         CHECK.end();
     }
 

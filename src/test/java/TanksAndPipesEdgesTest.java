@@ -6,27 +6,27 @@ public final class TanksAndPipesEdgesTest {
     private static final Check CHECK = new Check();
 
     public static void main(String[] args) {
-        newLand();
-        newLandAsked();
-        buildNumber();
-        buildArguments();
-        buildTooMany();
-        layNumber();
-        layNoTank();
-        layArguments();
-        layTooMany();
-        setAsBefore();
-        setNoTank();
-        setArguments();
-        flushHalf();
-        flushMud();
-        flushNoTank();
-        scrapeAll();
-        scrapeNoPipe();
-        stealNone();
-        stealBefore();
-        stealNoPipe();
-        stealArguments();
+        CHECK.run(TanksAndPipesEdgesTest::newLand);
+        CHECK.run(TanksAndPipesEdgesTest::newLandAsked);
+        CHECK.run(TanksAndPipesEdgesTest::buildNumber);
+        CHECK.run(TanksAndPipesEdgesTest::buildArguments);
+        CHECK.run(TanksAndPipesEdgesTest::buildTooMany);
+        CHECK.run(TanksAndPipesEdgesTest::layNumber);
+        CHECK.run(TanksAndPipesEdgesTest::layNoTank);
+        CHECK.run(TanksAndPipesEdgesTest::layArguments);
+        CHECK.run(TanksAndPipesEdgesTest::layTooMany);
+        CHECK.run(TanksAndPipesEdgesTest::setAsBefore);
+        CHECK.run(TanksAndPipesEdgesTest::setNoTank);
+        CHECK.run(TanksAndPipesEdgesTest::setArguments);
+        CHECK.run(TanksAndPipesEdgesTest::flushHalf);
+        CHECK.run(TanksAndPipesEdgesTest::flushMud);
+        CHECK.run(TanksAndPipesEdgesTest::flushNoTank);
+        CHECK.run(TanksAndPipesEdgesTest::scrapeAll);
+        CHECK.run(TanksAndPipesEdgesTest::scrapeNoPipe);
+        CHECK.run(TanksAndPipesEdgesTest::stealNone);
+        CHECK.run(TanksAndPipesEdgesTest::stealBefore);
+        CHECK.run(TanksAndPipesEdgesTest::stealNoPipe);
+        CHECK.run(TanksAndPipesEdgesTest::stealArguments);
         CHECK.end();
     }
 

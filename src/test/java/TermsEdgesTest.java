@@ -6,28 +6,28 @@ public final class TermsEdgesTest {
     private static final Check CHECK = new Check();
 
     public static void main(String[] args) {
-        lastCall();
-        cutNumbers();
-        timeFromZero();
-        tenTanks();
-        heights();
-        springs();
-        thirsts();
-        waters();
-        muds();
-        heads();
-        spilledWater();
-        fourteenPipes();
-        anotherTank();
-        widths();
-        dips();
-        crusts();
-        taps();
-        refusedCallsOfTanks();
-        refusedCallsOfPipes();
-        refusedCallsOfDays();
-        refusedCallsShowNoTraceLater();
-        namedFirst();
+        CHECK.run(TermsEdgesTest::lastCall);
+        CHECK.run(TermsEdgesTest::cutNumbers);
+        CHECK.run(TermsEdgesTest::timeFromZero);
+        CHECK.run(TermsEdgesTest::tenTanks);
+        CHECK.run(TermsEdgesTest::heights);
+        CHECK.run(TermsEdgesTest::springs);
+        CHECK.run(TermsEdgesTest::thirsts);
+        CHECK.run(TermsEdgesTest::waters);
+        CHECK.run(TermsEdgesTest::muds);
+        CHECK.run(TermsEdgesTest::heads);
+        CHECK.run(TermsEdgesTest::spilledWater);
+        CHECK.run(TermsEdgesTest::fourteenPipes);
+        CHECK.run(TermsEdgesTest::anotherTank);
+        CHECK.run(TermsEdgesTest::widths);
+        CHECK.run(TermsEdgesTest::dips);
+        CHECK.run(TermsEdgesTest::crusts);
+        CHECK.run(TermsEdgesTest::taps);
+        CHECK.run(TermsEdgesTest::refusedCallsOfTanks);
+        CHECK.run(TermsEdgesTest::refusedCallsOfPipes);
+        CHECK.run(TermsEdgesTest::refusedCallsOfDays);
+        CHECK.run(TermsEdgesTest::refusedCallsShowNoTraceLater);
+        CHECK.run(TermsEdgesTest::namedFirst);
         CHECK.end();
     }
 

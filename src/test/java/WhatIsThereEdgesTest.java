@@ -4,22 +4,22 @@ public final class WhatIsThereEdgesTest {
     private static final Check CHECK = new Check();
 
     public static void main(String[] args) {
-        tankLatestDay();
-        tankInAll();
-        tankNoTank();
-        pipeLatestDay();
-        pipeInAll();
-        pipeCanFlowNow();
-        pipeNoPipe();
-        countSums();
-        countThirsty();
-        countNoWhat();
-        reachWhatever();
-        reachItself();
-        reachBits();
-        reachNoTank();
-        suspectSmallest();
-        suspectNone();
+        CHECK.run(WhatIsThereEdgesTest::tankLatestDay);
+        CHECK.run(WhatIsThereEdgesTest::tankInAll);
+        CHECK.run(WhatIsThereEdgesTest::tankNoTank);
+        CHECK.run(WhatIsThereEdgesTest::pipeLatestDay);
+        CHECK.run(WhatIsThereEdgesTest::pipeInAll);
+        CHECK.run(WhatIsThereEdgesTest::pipeCanFlowNow);
+        CHECK.run(WhatIsThereEdgesTest::pipeNoPipe);
+        CHECK.run(WhatIsThereEdgesTest::countSums);
+        CHECK.run(WhatIsThereEdgesTest::countThirsty);
+        CHECK.run(WhatIsThereEdgesTest::countNoWhat);
+        CHECK.run(WhatIsThereEdgesTest::reachWhatever);
+        CHECK.run(WhatIsThereEdgesTest::reachItself);
+        CHECK.run(WhatIsThereEdgesTest::reachBits);
+        CHECK.run(WhatIsThereEdgesTest::reachNoTank);
+        CHECK.run(WhatIsThereEdgesTest::suspectSmallest);
+        CHECK.run(WhatIsThereEdgesTest::suspectNone);
         CHECK.end();
     }
 
@@ -330,6 +330,13 @@ public final class WhatIsThereEdgesTest {
         y.steal(1, 2);
         y.pass(1);
         CHECK.same("1 lost at a tap of 9, 2 at one of 2: suspect()", y.suspect(), 1);
+        AqueductTanks full = Lands.falling(0);
+        for (int pipe = 0; pipe < 14; pipe++) {
+            full.lay(0, 1, 2, 0);
+        }
+        full.steal(13, 1);
+        full.pass(1);
+        CHECK.same("the last of fourteen: suspect()", full.suspect(), 13);
     }
 
     private static void suspectNone() {

@@ -7,28 +7,29 @@ public final class WhatWouldBeEdgesTest {
     private static final Check CHECK = new Check();
 
     public static void main(String[] args) {
-        passDrunk();
-        passArguments();
-        foreseeDays();
-        foreseeEmpty();
-        foreseeNothingChanged();
-        foreseeArguments();
-        foreseeNoWhat();
-        adviseSmallest();
-        adviseNone();
-        adviseDays();
-        adviseNothingChanged();
-        adviseArguments();
-        satedAtMost();
-        satedAllOfIt();
-        satedNever();
-        satedNothingChanged();
-        satedNoTank();
-        meanDivided();
-        meanNone();
-        digestStart();
-        digestWraps();
-        digestOrder();
+        CHECK.run(WhatWouldBeEdgesTest::passDrunk);
+        CHECK.run(WhatWouldBeEdgesTest::passArguments);
+        CHECK.run(WhatWouldBeEdgesTest::foreseeDays);
+        CHECK.run(WhatWouldBeEdgesTest::foreseeEmpty);
+        CHECK.run(WhatWouldBeEdgesTest::foreseeFull);
+        CHECK.run(WhatWouldBeEdgesTest::foreseeNothingChanged);
+        CHECK.run(WhatWouldBeEdgesTest::foreseeArguments);
+        CHECK.run(WhatWouldBeEdgesTest::foreseeNoWhat);
+        CHECK.run(WhatWouldBeEdgesTest::adviseSmallest);
+        CHECK.run(WhatWouldBeEdgesTest::adviseNone);
+        CHECK.run(WhatWouldBeEdgesTest::adviseDays);
+        CHECK.run(WhatWouldBeEdgesTest::adviseNothingChanged);
+        CHECK.run(WhatWouldBeEdgesTest::adviseArguments);
+        CHECK.run(WhatWouldBeEdgesTest::satedAtMost);
+        CHECK.run(WhatWouldBeEdgesTest::satedAllOfIt);
+        CHECK.run(WhatWouldBeEdgesTest::satedNever);
+        CHECK.run(WhatWouldBeEdgesTest::satedNothingChanged);
+        CHECK.run(WhatWouldBeEdgesTest::satedNoTank);
+        CHECK.run(WhatWouldBeEdgesTest::meanDivided);
+        CHECK.run(WhatWouldBeEdgesTest::meanNone);
+        CHECK.run(WhatWouldBeEdgesTest::digestStart);
+        CHECK.run(WhatWouldBeEdgesTest::digestWraps);
+        CHECK.run(WhatWouldBeEdgesTest::digestOrder);
         CHECK.end();
     }
 
@@ -121,6 +122,25 @@ public final class WhatWouldBeEdgesTest {
         }
     }
 
+    private static void foreseeFull() {
+        CHECK.sentence("Returns this, if nothing is done (of ten tanks and fourteen pipes)");
+        AqueductTanks x = new AqueductTanks();
+        for (int tank = 0; tank < 10; tank++) {
+            x.build(tank == 0 ? 99 : 0, tank == 0 ? 20 : 3, 2);
+        }
+        for (int pipe = 0; pipe < 14; pipe++) {
+            x.lay(0, 1 + pipe % 9, 1, 0);
+            x.steal(pipe, 1);
+        }
+        // 20 and nine times 3 come; 14 flow and are lost, 2 are drunk from each tank.
+        int[] due = {20, 14, 47 - 20 - 14, 14};
+        for (int what = 0; what <= 3; what++) {
+            CHECK.same("foresee(1, " + what + ")", x.foresee(1, what), due[what]);
+        }
+        CHECK.same("the last tank: sated(9)", x.sated(9), 1);
+        CHECK.same("no crust: advise(1)", x.advise(1), -1);
+    }
+
     private static void foreseeNothingChanged() {
         CHECK.sentence("(nothing is changed) (foresee)");
         AqueductTanks x = tapped();
@@ -188,6 +208,12 @@ public final class WhatWouldBeEdgesTest {
         AqueductTanks y = crusted(1, 3);
         y.pass(4);
         CHECK.same("1 more and 2 more: advise(1)", y.advise(1), 1);
+        AqueductTanks full = crusted(1, 1, 1, 1, 1, 1, 1, 1, 1, 1, 1, 1, 1, 1);
+        CHECK.same("of fourteen: advise(1)", full.advise(1), 0);
+        for (int pipe = 0; pipe < 13; pipe++) {
+            full.scrape(pipe);
+        }
+        CHECK.same("the last of fourteen: advise(1)", full.advise(1), 13);
     }
 
     private static void adviseNone() {
@@ -199,6 +225,11 @@ public final class WhatWouldBeEdgesTest {
         AqueductTanks idle = crusted(1, 1);
         idle.set(1, 0, 0);
         CHECK.same("nobody is thirsty: advise(60)", idle.advise(60), -1);
+        AqueductTanks scraped = crusted(1, 2);
+        scraped.scrape(0);
+        scraped.scrape(1);
+        CHECK.same("narrow, but clean: advise(1)", scraped.advise(1), -1);
+        CHECK.same("narrow, but clean: advise(60)", scraped.advise(60), -1);
         // Scraped, the pipe takes 1 more away from the only fountain, which is at its upper end.
         AqueductTanks worse = Lands.with(tank(99, 200, 0), tank(0, 0, 0));
         worse.lay(0, 1, 1, 0);
@@ -417,24 +448,39 @@ public final class WhatWouldBeEdgesTest {
     private static void digestOrder() {
         CHECK.sentence("what count() tells, in its order; for each tank what tank() tells, in its order;"
             + " for each pipe what pipe() tells, in its order, and its stolen tap");
-        AqueductTanks x = new AqueductTanks();
-        for (int tank = 0; tank < 10; tank++) {
-            x.build(99 - 10 * tank, 20 - tank, 3 * tank % 20);
-            CHECK.same("built " + tank + ": digest()", x.digest(), reckoned(x));
+        for (int tanks = 0; tanks <= 10; tanks++) {
+            AqueductTanks x = staggered(tanks);
+            CHECK.same(tanks + " tanks: digest()", x.digest(), reckoned(x));
         }
         int[] taps = new int[14];
         for (int pipe = 0; pipe < 14; pipe++) {
-            x.lay(pipe % 9, 9, 20 - pipe, 3 * pipe);
             taps[pipe] = (pipe + 1) % 10;
+        }
+        AqueductTanks full = tappedWith(taps);
+        CHECK.same("full: digest()", full.digest(), reckoned(full, taps));
+        full.scrape(13);
+        CHECK.same("the last pipe is scraped: digest()", full.digest(), reckoned(full, taps));
+        taps[13] = 0;
+        AqueductTanks closed = tappedWith(taps);
+        CHECK.same("the last tap is closed: digest()", closed.digest(), reckoned(closed, taps));
+    }
+
+    private static AqueductTanks staggered(int tanks) {
+        AqueductTanks x = new AqueductTanks();
+        for (int tank = 0; tank < tanks; tank++) {
+            x.build(99 - 10 * tank, 20 - tank, 3 * tank % 20);
+        }
+        return x;
+    }
+
+    private static AqueductTanks tappedWith(int[] taps) {
+        AqueductTanks x = staggered(10);
+        for (int pipe = 0; pipe < taps.length; pipe++) {
+            x.lay(pipe % 9, 9, 20 - pipe, 3 * pipe);
             x.steal(pipe, taps[pipe]);
         }
         x.pass(13);
-        CHECK.same("full: digest()", x.digest(), reckoned(x, taps));
-        x.scrape(13);
-        CHECK.same("scraped: digest()", x.digest(), reckoned(x, taps));
-        taps[13] = 0;
-        x.steal(13, 0);
-        CHECK.same("the last tap is closed: digest()", x.digest(), reckoned(x, taps));
+        return x;
     }
 
     /** The checksum in numbers that don't wrap around, cut to 64 bits at the end. */
